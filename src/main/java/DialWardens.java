@@ -142,7 +142,14 @@ public final class DialWardens {
             throw new IllegalArgumentException("no complete orders");
         }
         history.save(now);
-        int obeyed = obeyParts();
+        int obeyed = 0;
+        boolean goesOn = true;
+        for (int place = 0; place < orders.length && goesOn; place++) {
+            if (orders.isPartStart(place)) {
+                goesOn = obeyPart(place);
+                obeyed += goesOn ? 1 : 0;
+            }
+        }
         orders.empty();
         return obeyed;
     }
@@ -331,7 +338,7 @@ public final class DialWardens {
     // The language has no doubleToLongBits. No share is below 0, and none that is above 0
     // is so small that its bits would need another form than this one.
     private static long bitsOf(double share, int fractionBits, int bias) {
-        if (!(share > 0.0)) {
+        if (share <= 0.0) {
             return 0L;
         }
         double part = share;
@@ -439,19 +446,7 @@ public final class DialWardens {
         now.settleQuarrels(poll.words);
     }
 
-    private int obeyParts() {
-        int obeyed = 0;
-        for (int place = 0; place < orders.length; place++) {
-            if (orders.isPartStart(place)) {
-                if (!obeyPart(place)) {
-                    return obeyed;
-                }
-                obeyed++;
-            }
-        }
-        return obeyed;
-    }
-
+    /** False if the part would throw, and so stops what comes behind it. */
     private boolean obeyPart(int place) {
         switch (orders.codeAt(place)) {
             case 't':

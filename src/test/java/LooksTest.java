@@ -167,13 +167,16 @@ public final class LooksTest {
         int[][] weights = {{1, 1, 1, 1, 0, 0, 0}, {0, 2, 0, 1, 0, 1, 0}, {9, 0, 0, 0, 0, 0, 9}, {1, 2, 3, 4, 5, 6, 7}, {0, 0, 1, 1, 0, 0, 0}};
         int[][] words = {{1, 2, 3, 4, 0, 2, 3}, {7, 5, 5, 9, 9, 8, 6}, {3, 2, 2, 2, 2, 2, 1}, {5, 5, 4, 4, 3, 3, 3}, {4, 4, 4, 4, 4, 4, 4}};
         int[] due = {2, 5, 1, 3, 4};
+        int[] moved = {3, 5, 1, 3, 4};
         for (int row = 0; row < due.length; row++) {
             DialWardens x = new DialWardens();
             for (int warden = 0; warden < 7; warden++) {
                 x.warden(warden, weights[row][warden], words[row][warden]);
             }
-            check.same("middle by order of row " + row, x.count(2), due[row]);
             check.same("middle by adding of row " + row, x.count(3), due[row]);
+            check.same("middle by order of row " + row, x.count(2), due[row]);
+            x.put(0, 99999);
+            check.same("middle by adding of the moved row " + row, x.count(3), moved[row]);
         }
     }
 

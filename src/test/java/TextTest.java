@@ -17,6 +17,7 @@ public final class TextTest {
         stopsAtAVote();
         wrongObey();
         fullBuffer();
+        whatWasInTheBufferIsGone();
         check.end();
     }
 
@@ -210,5 +211,21 @@ public final class TextTest {
         check.same("obey", x.obey(), 15);
         check.same("true time", x.count(0), 14 * 990);
         check.same("drift", x.dial(3, 2), -5);
+    }
+
+    private static void whatWasInTheBufferIsGone() {
+        DialWardens x = new DialWardens();
+        Check.append(x, "t19;v");
+        check.same("obey of t19;v", x.obey(), 2);
+        Check.append(x, "t1");
+        check.same("firstError of t1", x.firstError(), 2);
+        check.same("obey of t1", x.obey(), 1);
+        check.same("true time", x.count(0), 200);
+        check.same("votes", x.count(6), 1);
+        Check.append(x, "t28");
+        x.clearBuffer();
+        Check.append(x, "t2");
+        check.same("obey of t2", x.obey(), 1);
+        check.same("true time", x.count(0), 220);
     }
 }

@@ -151,13 +151,13 @@ public final class TownTest {
     private static void quarrelsAlikeCostNothing() {
         DialWardens x = new DialWardens();
         x.tick(10);
-        x.warden(2, 1, 20);
-        x.warden(3, 1, -20);
+        x.warden(2, 3, 20);
+        x.warden(3, 3, -20);
         x.vote();
         check.same("the town", x.count(1), 100);
-        check.same("weight of 2: one of two quarrels costs", x.says(2, 0), 0);
+        check.same("weight of 2: one of two quarrels costs", x.says(2, 0), 2);
         check.same("losses of 2", x.says(2, 3), 1);
-        check.same("weight of 3", x.says(3, 0), 0);
+        check.same("weight of 3", x.says(3, 0), 2);
         check.same("losses of 3", x.says(3, 3), 1);
         check.same("weight of 1", x.says(1, 0), 3);
         check.same("weight of 4", x.says(4, 0), 3);
