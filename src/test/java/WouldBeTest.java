@@ -202,14 +202,13 @@ public final class WouldBeTest {
         return hash;
     }
 
-    private static void digest() {
+    /** Behind so many rounds; a new object for each, as one digest by hand takes some 130 of its 512 calls. */
+    private static DialWardens behind(int rounds) {
         DialWardens x = new DialWardens();
-        check.same("digest of a new object", x.digest(), digestByHand(x, false, ""));
         x.drift(0, 5);
         x.warden(5, 4, -7);
         x.set(1, 11);
-        check.same("digest without votes", x.digest(), digestByHand(x, false, ""));
-        for (int i = 1; i <= 60; i++) {
+        for (int i = 1; i <= rounds; i++) {
             x.tick(i);
             x.vote();
             if (i % 3 == 0) {
@@ -218,16 +217,27 @@ public final class WouldBeTest {
             if (i % 7 == 0) {
                 x.put(i % 6, 99999 - i);
             }
-            check.same("digest " + i, x.digest(), digestByHand(x, false, ""));
         }
-        Check.append(x, "t9;~!");
-        check.same("digest with a buffer", x.digest(), digestByHand(x, false, "t9;~!"));
-        x.keep();
-        check.same("digest with a snapshot", x.digest(), digestByHand(x, true, "t9;~!"));
-        DialWardens held = new DialWardens();
-        for (int i = 0; i < 100; i++) {
-            held.vote();
-            check.same("digest held " + i, held.digest(), digestByHand(held, false, ""));
+        return x;
+    }
+
+    private static void digest() {
+        check.same("digest of a new object", new DialWardens().digest(), digestByHand(new DialWardens(), false, ""));
+        for (int rounds = 0; rounds <= 60; rounds++) {
+            DialWardens x = behind(rounds);
+            check.same("digest " + rounds, x.digest(), digestByHand(x, false, ""));
+        }
+        DialWardens y = behind(5);
+        Check.append(y, "t9;~!");
+        check.same("digest with a buffer", y.digest(), digestByHand(y, false, "t9;~!"));
+        y.keep();
+        check.same("digest with a snapshot", y.digest(), digestByHand(y, true, "t9;~!"));
+        for (int votes = 0; votes <= 100; votes++) {
+            DialWardens held = new DialWardens();
+            for (int i = 0; i < votes; i++) {
+                held.vote();
+            }
+            check.same("digest held " + votes, held.digest(), digestByHand(held, false, ""));
         }
     }
 
