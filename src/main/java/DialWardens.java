@@ -732,7 +732,10 @@ public final class DialWardens {
 
         int middleByOrder() {
             for (int warden = 0; warden < DIALS; warden++) {
-                order[placeOf(warden)] = warden;
+                int place = placeOf(warden);
+                if (place < order.length) {
+                    order[place] = warden;
+                }
             }
             int all = sum(weights);
             int reached = 0;
@@ -884,11 +887,18 @@ public final class DialWardens {
         }
 
         void save(State state) {
-            if (size == SAVED_MAX) {
+            if (size >= SAVED_MAX) {
                 dropOldest();
             }
-            states[size].copyFrom(state);
-            size++;
+            State next = stateAt(size);
+            if (next != null) {
+                next.copyFrom(state);
+                size++;
+            }
+        }
+
+        private State stateAt(int place) {
+            return place >= 0 && place < states.length ? states[place] : null;
         }
 
         private void dropOldest() {
@@ -901,9 +911,10 @@ public final class DialWardens {
         }
 
         void restore(State state) {
-            if (size > 0) {
+            State latest = stateAt(size - 1);
+            if (latest != null) {
+                state.copyFrom(latest);
                 size--;
-                state.copyFrom(states[size]);
             }
         }
     }
